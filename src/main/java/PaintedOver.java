@@ -313,13 +313,13 @@ public final class PaintedOver {
 
     public int seen(int house, int cell, int d) {
         if (noHouse(house)) {
-            return refuse(NOBODY, TEN_DOWN);
+            return refuseDown(NOBODY, TEN_DOWN);
         }
         if (outside(cell, CELLS)) {
-            return refuse(BEYOND, TEN_DOWN);
+            return refuseDown(BEYOND, TEN_DOWN);
         }
         if (outside(d, WEATHERS)) {
-            return refuse(WRONG, TEN_DOWN);
+            return refuseDown(WRONG, TEN_DOWN);
         }
         Front front = now.fronts[house];
         return now.seenAmong(front, front.lyingIn(cell), cell, d);
@@ -370,10 +370,10 @@ public final class PaintedOver {
 
     public int razor(int house, int coat, int what) {
         if (noHouse(house) || noCoat(house, coat)) {
-            return refuse(NOBODY, TEN_DOWN);
+            return refuseDown(NOBODY, TEN_DOWN);
         }
         if (what != 0 && what != 1) {
-            return refuse(BEYOND, TEN_DOWN);
+            return refuseDown(BEYOND, TEN_DOWN);
         }
         Front front = now.fronts[house];
         int best = NONE;
@@ -421,7 +421,7 @@ public final class PaintedOver {
 
     public int firstWet(int house, int coat) {
         if (noHouse(house) || noCoat(house, coat)) {
-            return refuse(NOBODY, TEN_DOWN);
+            return refuseDown(NOBODY, TEN_DOWN);
         }
         Front front = now.fronts[house];
         for (int d = 0; d < WEATHERS; d++) {
@@ -436,21 +436,21 @@ public final class PaintedOver {
 
     public int paint(int house, int gap, int d) {
         if (noHouse(house)) {
-            return refuse(NOBODY, TEN_DOWN);
+            return refuseDown(NOBODY, TEN_DOWN);
         }
         if (outside(gap, CELLS) || outside(d, WEATHERS)) {
-            return refuse(WRONG, TEN_DOWN);
+            return refuseDown(WRONG, TEN_DOWN);
         }
         Front front = now.fronts[house];
         if (front.coats >= MOST_COATS) {
-            return refuse(ROOM, TEN_DOWN);
+            return refuseDown(ROOM, TEN_DOWN);
         }
         return cheapest(front, front.wettestBut(gap, d));
     }
 
     public int gap(int house, int tenant) {
         if (noHouse(house) || outside(tenant, TENANTS)) {
-            return refuse(NOBODY, TEN_DOWN);
+            return refuseDown(NOBODY, TEN_DOWN);
         }
         Front front = now.fronts[house];
         int best = NONE;
@@ -508,7 +508,7 @@ public final class PaintedOver {
     public int forged(int s, int n) {
         int trouble = pairsTrouble(s, n, false);
         if (trouble != 0) {
-            return refuse(trouble, TEN_DOWN);
+            return refuseDown(trouble, TEN_DOWN);
         }
         forgetPairs();
         for (int k = 0; k < n; k++) {
@@ -522,10 +522,10 @@ public final class PaintedOver {
 
     public int lane(int house, int other) {
         if (noHouse(house) || noHouse(other)) {
-            return refuse(NOBODY, THOUSAND_DOWN);
+            return refuseDown(NOBODY, THOUSAND_DOWN);
         }
         if (house == other) {
-            return refuse(WRONG, THOUSAND_DOWN);
+            return refuseDown(WRONG, THOUSAND_DOWN);
         }
         return now.wide - now.fronts[house].greatestDepth() - now.fronts[other].greatestDepth();
     }
@@ -680,10 +680,10 @@ public final class PaintedOver {
     // ==== Refusals, and what they ask
 
     private int refuse(int refusal) {
-        return refuse(refusal, 0);
+        return refuseDown(refusal, 0);
     }
 
-    private int refuse(int refusal, int down) {
+    private int refuseDown(int refusal, int down) {
         refusals[refusal]++;
         return -refusal - down;
     }

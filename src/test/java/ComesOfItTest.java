@@ -14,6 +14,8 @@ public final class ComesOfItTest {
         forged();
         forgedRefusals();
         lanes();
+        lanesByTheGreatest();
+        pairsAnew();
         prices();
         houseRefusals();
         DUE.end();
@@ -206,6 +208,18 @@ public final class ComesOfItTest {
         }
     }
 
+    private static void pairsAnew() {
+        PaintedOver x = new PaintedOver();
+        Due.row(x, 0, 0, 10, 32);
+        Due.row(x, 1, 0, 1);
+        DUE.is("pairs", x.orders(0, 2, -1), 6);
+        DUE.is("pairs anew", x.orders(1, 1, -1), 1);
+        DUE.is("the first of these", x.orders(1, 1, 0), 1);
+        DUE.is("no third of these", x.orders(1, 1, 2), -5);
+        DUE.is("forged of the others", x.forged(0, 2), -1);
+        DUE.is("forged of these", x.forged(1, 1), -1);
+    }
+
     private static void ordersRefusals() {
         PaintedOver x = new PaintedOver();
         x.house(0, 0);
@@ -312,6 +326,24 @@ public final class ComesOfItTest {
         DUE.is("to house -1", x.lane(0, -1), -1001);
         DUE.is("the same", x.lane(1, 1), -1006);
         DUE.is("refusals", Due.refusals(x), 4_00_00_00_00_01_00L);
+    }
+
+    private static void lanesByTheGreatest() {
+        for (int cell = 0; cell < 12; cell++) {
+            PaintedOver x = new PaintedOver();
+            x.house(0, 0);
+            x.house(0, 0);
+            x.coat(0, 0, 0, 9, 0);
+            x.coat(0, 0, 0, 8, 1);
+            for (int other = 0; other < 12; other++) {
+                if (other != cell) {
+                    x.scratch(0, other);
+                    x.scratch(0, other);
+                }
+            }
+            int left = cell == 0 ? 8 : cell == 1 ? 9 : 17;
+            DUE.is("lane by the depth of " + cell, x.lane(0, 1), 40 - left);
+        }
     }
 
     private static void prices() {

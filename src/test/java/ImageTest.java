@@ -45,6 +45,9 @@ public final class ImageTest {
                 }
             }
         }
+        DUE.is("wet of the cellar", x.wet(0, 8, 10), 28);
+        DUE.is("wet of the bare", x.wet(1, 8, 10), 10);
+        DUE.is("hailed of the bare", x.hailed(1, 0, 4) + 10 * x.hailed(1, 0, 5), 1);
         DUE.is("hides", x.colour(2, 0, 8), 8);
         DUE.is("costs", x.colour(5, 1, 44), 44);
         DUE.is("other costs", x.colour(0, 1, 1), 1);

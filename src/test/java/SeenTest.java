@@ -12,6 +12,7 @@ public final class SeenTest {
         razors();
         razorBehindScratches();
         hiddenAndShown();
+        seenInOneCellAlone();
         firstWet();
         refusals();
         DUE.end();
@@ -201,6 +202,25 @@ public final class SeenTest {
             x.coat(0, 0, 2, 1, 0);
         }
         DUE.is("eight coats, all hidden", x.hidden(0, 99), 255);
+    }
+
+    /** In each cell in turn a coat is seen that is seen nowhere else, and another is shown there by hail. */
+    private static void seenInOneCellAlone() {
+        for (int cell = 0; cell < 12; cell++) {
+            PaintedOver x = new PaintedOver();
+            x.house(0, 0);
+            x.coat(0, 0, 0, 9, (cell + 1) % 12);
+            x.coat(0, 1, 0, 3, (cell + 2) % 12);
+            x.coat(0, 2, 0, 5, cell);
+            DUE.is("hidden beneath, but for " + cell, x.hidden(0, 0), 1);
+            DUE.is("first wet in " + cell, x.firstWet(0, 1), 0);
+            DUE.is("shown in " + cell, x.shown(0, 4), 1);
+            DUE.is("shown elsewhere", x.shown(0, 2), 0);
+            x.colour(0, 1, 7);
+            x.colour(1, 1, 90);
+            x.coat(0, 3, 1, 1, 11 - cell);
+            DUE.is("price of two", x.price(0, 0), 97);
+        }
     }
 
     private static void firstWet() {

@@ -48,8 +48,10 @@ public final class ShelvesTest {
         DUE.is("longest row", x.row(7, 3, 160), 1);
         DUE.is("last of the longest", x.set(7, 159, 9), 1);
         DUE.is("last of the longest told", x.element(7, 159), 9);
+        DUE.is("first of the longest", x.set(7, 0, 8), 1);
         DUE.is("new row anew", x.row(7, 3, 160), 1);
         DUE.is("zero at first", x.element(7, 159), 0);
+        DUE.is("element 0 zero at first", x.element(7, 0), 0);
         DUE.is("set", x.set(7, 1, 5), 1);
         DUE.is("row 8", x.row(8, -1, -1), -1);
         DUE.is("row -1", x.row(-1, 0, 1), -1);
@@ -209,6 +211,7 @@ public final class ShelvesTest {
         DUE.is("SOUTH without coats", x.says(4, 4), 0);
         DUE.is("TILED says HARD of CELL 4", x.says(5, 5), 4);
         x.coat(4, 0, 0, 9, 0);
+        DUE.is("SOUTH of one coat", x.says(4, 4), 18);
         x.coat(4, 0, 1, 4, 0);
         DUE.is("SOUTH says STRENGTH of the highest", x.says(4, 4), 8);
         for (int cell = 1; cell < 12; cell++) {

@@ -13,6 +13,8 @@ public final class StreetTest {
         roomForCoats();
         nothingIsLyingThere();
         allOrNothing();
+        allOrNothingAgain();
+        kindsBehindAStreet();
         toldOverWhatThereIs();
         sortsOfRows();
         refusals();
@@ -47,6 +49,8 @@ public final class StreetTest {
         DUE.is("hail 99", Due.street(x, "hail 99"), 1);
         DUE.is("gone", x.coatOf(1, 0, 6), 0);
         DUE.is("coats stay", x.status(1), 2);
+        DUE.is("scratch of cell 0", Due.street(x, "coat 0 3 3 1 11;scratch 0 0"), 2);
+        DUE.is("scratched in cell 0", x.coatOf(0, 1, 6), 0x7FE);
         PaintedOver y = new PaintedOver();
         y.house(0, 0);
         y.seed(2);
@@ -159,6 +163,8 @@ public final class StreetTest {
         faultOf("house 0 0;coat 0 0 0 1 0;coat 0 8 0 1 0", 32);
         faultOf("house 0 0;scratch 1 0", 18);
         faultOf("house 0 0;scratch 0 12", 20);
+        faultOf("house 0 0;coat 0 0 0 1 5;scratch 0 12", 35);
+        faultOf("house 0 0;coat 0 0 0 1 5;scratch 0 13", 35);
         faultOf("house 0 0;scratch 0", 19);
     }
 
@@ -219,6 +225,46 @@ public final class StreetTest {
         DUE.is("costs", x.colour(0, 1, 1), 1);
         DUE.is("cells", x.coatOf(0, 0, 6), 0xFFE);
         DUE.is("refusals", Due.refusals(x), 2_00L);
+    }
+
+    /** Streets without and with a fault by turns. */
+    private static void allOrNothingAgain() {
+        PaintedOver x = new PaintedOver();
+        for (int n = 1; n <= 3; n++) {
+            DUE.is("street " + n, Due.street(x, "house 0 0;coat 0 0 0 1 0"), 2);
+            faultOn(x, "house 0 0;coat 0 0 0 1 0;hail 9;costs 0 9;x", 42);
+            DUE.is("houses " + n, x.status(0), n);
+            DUE.is("coats " + n, x.status(1), n);
+            DUE.is("skin " + n, x.skin(0), 11 * n);
+            DUE.is("costs " + n, x.colour(0, 1, 1), 1);
+        }
+    }
+
+    private static void kindsBehindAStreet() {
+        int[] wet = {10, 14, 10, 28, 10, 10, 10};
+        int[] strength = {3, 3, 3, 3, 2, 3, 3};
+        int[] behind = {0, 0, 1, 0, 0, 1, 1};
+        for (int kind = 0; kind < 7; kind++) {
+            PaintedOver x = new PaintedOver();
+            x.house(kind, 4);
+            x.coat(0, 0, 0, 1, 11);
+            for (int n = 0; n < 3; n++) {
+                DUE.is("street", Due.street(x, "house 00 0"), 1);
+                DUE.is("kind " + kind, x.houseOf(0, 0), kind);
+                DUE.is("a of kind " + kind, x.houseOf(0, 1), 4);
+                DUE.is("wet of kind " + kind, x.wet(0, 8, 10), wet[kind]);
+                DUE.is("strength of kind " + kind, x.coatOf(0, 0, 5), strength[kind]);
+                DUE.is("hailed of kind " + kind, x.hailed(0, 4, 4), behind[kind]);
+                DUE.is("plain house", x.wet(n + 1, 8, 10), 10);
+            }
+        }
+        for (int kind = 0; kind < 7; kind++) {
+            PaintedOver x = new PaintedOver();
+            DUE.is("told of kind " + kind, Due.street(x, "house " + kind + " 4;coat 0 0 0 1 11"), 2);
+            DUE.is("wet of told kind " + kind, x.wet(0, 8, 10), wet[kind]);
+            DUE.is("strength of told kind " + kind, x.coatOf(0, 0, 5), strength[kind]);
+            DUE.is("hailed of told kind " + kind, x.hailed(0, 4, 4), behind[kind]);
+        }
     }
 
     private static void toldOverWhatThereIs() {

@@ -9,6 +9,7 @@ public final class TruthTest {
         falls();
         yearByDraws();
         yearsOneAfterAnother();
+        hailByDraws();
         yearsOnFullHouses();
         yearsWithFalls();
         yearsRefusals();
@@ -92,10 +93,17 @@ public final class TruthTest {
         DUE.is("no more of them", x.falls(), 0);
         DUE.is("houses stay", x.status(0), 3);
         x.coat(0, 0, 0, 9, 0);
-        x.scratch(0, 5);
-        x.falls();
+        for (int cell = 1; cell < 12; cell += 2) {
+            x.scratch(0, cell);
+        }
+        DUE.is("falls half laid bare", x.falls(), 1);
         DUE.is("a coat behind a fall", x.coat(0, 0, 0, 1, 0), 0);
         DUE.is("lies where one was gone", x.coatOf(0, 0, 6), 0xFFE);
+        x.coat(0, 0, 0, 2, 11);
+        x.scratch(0, 0);
+        x.falls();
+        x.coat(0, 0, 0, 1, 11);
+        DUE.is("lies in cell 0 too", x.coatOf(0, 0, 6), 0x7FF);
         DUE.is("no refusals", Due.refusals(x), 0);
     }
 
@@ -148,6 +156,22 @@ public final class TruthTest {
         DUE.is("both gone by hail of 7", x.skin(0), 0);
         x.coat(1, 0, 0, 1, 0);
         DUE.is("a coat's year", x.coatOf(1, 0, 4), 2);
+    }
+
+    /** The draws of seed 70: thick 7, hail 7; those of seed 3: thick 5, hail 4. */
+    private static void hailByDraws() {
+        PaintedOver x = new PaintedOver();
+        x.house(0, 0);
+        x.seed(70);
+        x.years(1);
+        DUE.is("seed", x.status(6), -1335940448);
+        DUE.is("thick 7", x.coatOf(0, 0, 2), 7);
+        DUE.is("gone by hail of 7", x.skin(0), 0);
+        PaintedOver y = new PaintedOver();
+        y.house(0, 0);
+        y.seed(3);
+        y.years(1);
+        DUE.is("5 stays by hail of 4", y.skin(0), 55);
     }
 
     private static void yearsOnFullHouses() {
