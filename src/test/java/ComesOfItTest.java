@@ -299,6 +299,8 @@ public final class ComesOfItTest {
         DUE.is("n above 20", x.forged(0, 21), -16);
         DUE.is("n 20", x.forged(0, 20), -1);
         x.set(0, 1, 1);
+        DUE.is("only the first n", x.forged(0, 1), -1);
+        DUE.is("one more", x.forged(0, 2), 1);
         x.set(0, 2, 99);
         DUE.is("elements ahead of what is forged", x.forged(0, 3), -16);
         DUE.is("refusals", Due.refusals(x), 2_01_01_01_01_02_00L);

@@ -99,9 +99,11 @@ public final class TruthTest {
         DUE.is("falls half laid bare", x.falls(), 1);
         DUE.is("a coat behind a fall", x.coat(0, 0, 0, 1, 0), 0);
         DUE.is("lies where one was gone", x.coatOf(0, 0, 6), 0xFFE);
+        x.ask(0, 1);
+        x.falls();
         x.coat(0, 0, 0, 2, 11);
         x.scratch(0, 0);
-        x.falls();
+        DUE.is("falls scratched in cell 0", x.falls(), 1);
         x.coat(0, 0, 0, 1, 11);
         DUE.is("lies in cell 0 too", x.coatOf(0, 0, 6), 0x7FF);
         DUE.is("no refusals", Due.refusals(x), 0);
