@@ -16,6 +16,15 @@ final class Due {
         }
     }
 
+    void same(String what, long[] got, long[] want) {
+        asked++;
+        int at = java.util.Arrays.mismatch(got, want);
+        if (at >= 0) {
+            wrong++;
+            System.out.println(name + ": " + what + ": answer " + at + " isn't as it was");
+        }
+    }
+
     void end() {
         System.out.println(name + ": " + asked + " answers, " + wrong + " not as due");
         if (wrong != 0) {
