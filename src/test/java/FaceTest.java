@@ -32,7 +32,9 @@ public final class FaceTest {
     public static void main(String[] args) throws IOException {
         methods();
         otherMembers();
+        sizes();
         ruledOut();
+        methodLengths();
         DUE.end();
     }
 
@@ -85,6 +87,44 @@ public final class FaceTest {
             for (Field field : one.getDeclaredFields()) {
                 boolean staticState = Modifier.isStatic(field.getModifiers()) && !Modifier.isFinal(field.getModifiers());
                 DUE.is(field + " is static state", staticState ? 1 : 0, 0);
+            }
+        }
+    }
+
+    private static List<Class<?>> classes() {
+        List<Class<?>> all = new java.util.ArrayList<>(Arrays.asList(PaintedOver.class.getDeclaredClasses()));
+        all.add(PaintedOver.class);
+        return all;
+    }
+
+    /** Rules 5 and 11: seven parameters, twenty fields at most; static fields are final. */
+    private static void sizes() {
+        for (Class<?> one : classes()) {
+            for (Method method : one.getDeclaredMethods()) {
+                DUE.is(method + " has seven parameters at most", method.getParameterCount() <= 7 ? 1 : 0, 1);
+            }
+            int fields = 0;
+            for (Field field : one.getDeclaredFields()) {
+                boolean isStatic = Modifier.isStatic(field.getModifiers());
+                fields += isStatic ? 0 : 1;
+                DUE.is(field + " is final if static", !isStatic || Modifier.isFinal(field.getModifiers()) ? 1 : 0, 1);
+            }
+            DUE.is(one + " has twenty fields at most", fields <= 20 ? 1 : 0, 1);
+        }
+    }
+
+    /** Rule 11: methods have some sixty lines at most. A method begins and ends at the indent of its class's members. */
+    private static void methodLengths() throws IOException {
+        List<String> lines = Files.readAllLines(Path.of("src/main/java/PaintedOver.java"));
+        int[] begun = new int[20];
+        for (int i = 0; i < lines.size(); i++) {
+            String line = lines.get(i);
+            int indent = line.length() - line.stripLeading().length();
+            boolean isClass = line.contains(" class ") || line.startsWith("public");
+            if (line.endsWith("{") && indent <= 8) {
+                begun[indent] = isClass ? Integer.MAX_VALUE : i;
+            } else if (line.strip().equals("}") && indent <= 8) {
+                DUE.is("lines of what ends in line " + (i + 1), i - begun[indent] < 60 ? 1 : 0, 1);
             }
         }
     }

@@ -18,6 +18,7 @@ public final class TextEdgesTest {
         numbersAtTheVeryEnd();
         anotherElementAtEachPlace();
         oneBlank();
+        betweenItems();
         itemsCounted();
         noLetters();
         fullRow();
@@ -255,6 +256,16 @@ public final class TextEdgesTest {
         faultOn(twoHouses(), "scratch 0 1 1", 11);
         faultOn(twoHouses(), "costs 0 9 9", 9);
         faultOn(twoHouses(), "hail\t1", 4);
+    }
+
+    /** Between items one ; and nothing else: a word, or a part of one, can't stand right behind a number. */
+    private static void betweenItems() {
+        String[] behind = {"h", "ho", "hou", "house 0 0", "hail 0", "c", "coat 0 0 0 1 0", "s", "scratch 0 1", " hail 0", ",hail 0"};
+        for (String more : behind) {
+            faultOn(twoHouses(), "hail 0" + more, 6);
+            faultOn(twoHouses(), "costs 0 99" + more, 10);
+            faultOn(twoHouses(), "hail 0;hail 0" + more, 13);
+        }
     }
 
     private static void itemsCounted() {
